@@ -38,7 +38,6 @@ public final class CornDesk {
 
     private static final int FACTS = 4;
     private static final int ZERO_SIGN = 10;
-    private static final int NINE_SIGN = 19;
     private static final int LESS_SIGN = 20;
     private static final int EQUAL_SIGN = 21;
     private static final int NOT_SIGN = 22;

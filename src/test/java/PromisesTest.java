@@ -377,8 +377,18 @@ public final class PromisesTest {
         due(17, "no finding", desk.all(4), 0);
     }
 
-    /** Whether the groups 0 and 1 are of the form that the signs tell. */
-    private static void form(CornDesk desk, long first, long second, int... signs) {
+    /** Group 0: two DITCHED with sizes 40 and 30 and three gates; group 1: a MARK. */
+    private static CornDesk twoGroups() {
+        CornDesk desk = straight(2);
+        desk.mark(0, 3, 10, 10, 40, 5);
+        desk.mark(1, 3, 10, 10, 30, 6);
+        desk.mark(0, 0, 500, 500, 0, 0);
+        return desk;
+    }
+
+    /** Whether the groups 0 and 1 are of the form that the signs tell; on a new desk, which serves 512 calls alone. */
+    private static void form(long first, long second, int... signs) {
+        CornDesk desk = twoGroups();
         signs(desk, signs);
         String told = java.util.Arrays.toString(signs);
         due(18, "is(0) by " + told, desk.is(0), first);
@@ -386,46 +396,43 @@ public final class PromisesTest {
     }
 
     private static void isOfForm() {
-        CornDesk desk = straight(2);
-        due(18, "is without groups, ahead of a wrong text", desk.is(0), BEYOND);
-        desk.mark(0, 3, 10, 10, 40, 5);
-        desk.mark(1, 3, 10, 10, 30, 6);
-        desk.mark(0, 0, 500, 500, 0, 0);
+        due(18, "is without groups, ahead of a wrong text", straight(2).is(0), BEYOND);
+        CornDesk desk = twoGroups();
         due(18, "is of an empty text", desk.is(0), KIND);
         due(18, "is(-1)", desk.is(-1), BEYOND);
         due(18, "is(2)", desk.is(2), BEYOND);
-        form(desk, 1, 1, 1);
-        form(desk, 1, 0, 1, 12, 21);
-        form(desk, 0, 1, 1, 11, 21);
-        form(desk, 1, 0, 2);
-        form(desk, 0, 1, 2, 19, 20);
-        form(desk, 1, 0, 19, 2, 20);
-        form(desk, 1, 0, 3, 13, 21);
-        form(desk, 0, 1, 3, 10, 21);
-        form(desk, 1, 0, 4, 13, 21);
-        form(desk, 0, 1, 4, 10, 21);
+        form(1, 1, 1);
+        form(1, 0, 1, 12, 21);
+        form(0, 1, 1, 11, 21);
+        form(1, 0, 2);
+        form(0, 1, 2, 19, 20);
+        form(1, 0, 19, 2, 20);
+        form(1, 0, 3, 13, 21);
+        form(0, 1, 3, 10, 21);
+        form(1, 0, 4, 13, 21);
+        form(0, 1, 4, 10, 21);
         for (int digit = 0; digit <= 9; digit++) {
-            form(desk, digit > 0 ? 1 : 0, digit > 0 ? 1 : 0, 10 + digit);
-            form(desk, digit == 0 ? 1 : 0, digit == 0 ? 1 : 0, 10 + digit, 22);
-            form(desk, digit > 4 ? 1 : 0, digit > 4 ? 1 : 0, 14, 10 + digit, 20);
-            form(desk, digit == 4 ? 1 : 0, digit == 4 ? 1 : 0, 14, 10 + digit, 21);
-            form(desk, digit > 0 ? 1 : 0, digit > 0 ? 1 : 0, 14, 10 + digit, 23);
-            form(desk, digit > 0 ? 1 : 0, digit > 0 ? 1 : 0, 10 + digit, 14, 23);
-            form(desk, 0, 0, 10, 10 + digit, 23);
-            form(desk, 1, 1, 14, 10 + digit, 24);
-            form(desk, digit > 0 ? 1 : 0, digit > 0 ? 1 : 0, 10, 10 + digit, 24);
-            form(desk, digit > 0 ? 1 : 0, digit > 0 ? 1 : 0, 10 + digit, 10, 24);
+            form(digit > 0 ? 1 : 0, digit > 0 ? 1 : 0, 10 + digit);
+            form(digit == 0 ? 1 : 0, digit == 0 ? 1 : 0, 10 + digit, 22);
+            form(digit > 4 ? 1 : 0, digit > 4 ? 1 : 0, 14, 10 + digit, 20);
+            form(digit == 4 ? 1 : 0, digit == 4 ? 1 : 0, 14, 10 + digit, 21);
+            form(digit > 0 ? 1 : 0, digit > 0 ? 1 : 0, 14, 10 + digit, 23);
+            form(digit > 0 ? 1 : 0, digit > 0 ? 1 : 0, 10 + digit, 14, 23);
+            form(0, 0, 10, 10 + digit, 23);
+            form(1, 1, 14, 10 + digit, 24);
+            form(digit > 0 ? 1 : 0, digit > 0 ? 1 : 0, 10, 10 + digit, 24);
+            form(digit > 0 ? 1 : 0, digit > 0 ? 1 : 0, 10 + digit, 10, 24);
         }
-        form(desk, 1, 1, 10, 22, 11, 21);
-        form(desk, 1, 1, 13, 14, 20, 11, 21);
-        form(desk, 1, 1, 13, 13, 21, 11, 21);
-        form(desk, 1, 1, 13, 14, 23, 11, 21);
-        form(desk, 1, 1, 13, 14, 24, 11, 21);
-        form(desk, 0, 0, 10, 11, 12, 13, 14, 15, 20, 21, 20, 21, 20);
-        form(desk, 1, 1, 10, 11, 12, 13, 14, 15, 20, 21, 20, 21, 20, 22);
-        form(desk, KIND, KIND, 1, 1);
-        form(desk, KIND, KIND, 1, 23);
-        form(desk, KIND, KIND, 1, 1, 1, 1, 1, 1, 1);
+        form(1, 1, 10, 22, 11, 21);
+        form(1, 1, 13, 14, 20, 11, 21);
+        form(1, 1, 13, 13, 21, 11, 21);
+        form(1, 1, 13, 14, 23, 11, 21);
+        form(1, 1, 13, 14, 24, 11, 21);
+        form(0, 0, 10, 11, 12, 13, 14, 15, 20, 21, 20, 21, 20);
+        form(1, 1, 10, 11, 12, 13, 14, 15, 20, 21, 20, 21, 20, 22);
+        form(KIND, KIND, 1, 1);
+        form(KIND, KIND, 1, 23);
+        form(KIND, KIND, 1, 1, 1, 1, 1, 1, 1);
     }
 
     private static void field() {
