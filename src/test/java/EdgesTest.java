@@ -133,6 +133,27 @@ public final class EdgesTest {
         due("all of them are counted", desk.all(4), 6);
     }
 
+    private static void lowestAnswers() {
+        says("FINDINGS are answers below -999999999");
+        // Eight places that lead u 999 to a fraction with this upper part, by the lower part behind it.
+        long[] uppers = {-999999999L, -1000000000L, -1000000001L};
+        long[] lowers = {1087663, 546679, 889271};
+        int[][] us = {{347, 54, 265, 366, 26, 258, 44, 131}, {282, 316, 144, 46, 280, 162, 86, 147},
+            {131, 329, 30, 297, 351, 373, 123, 207}};
+        int[][] xs = {{125, 716, 0, 388, 910, 0, 161, 814}, {0, 0, 895, 694, 0, 705, 314, 218},
+            {617, 0, 705, 588, 0, 0, 368, 276}};
+        for (int i = 0; i < 3; i++) {
+            CornDesk desk = pictures(1);
+            for (int j = 0; j < 8; j++) {
+                desk.place(0, us[i][j], j, xs[i][j], j);
+            }
+            due("led by", desk.led(0, false, 999, true), lowers[i]);
+            due("a lower part is no finding", desk.all(4), 0);
+            due("led", desk.led(0, false, 999, false), uppers[i]);
+            due("findings after " + uppers[i], desk.all(4), i == 0 ? 0 : 1);
+        }
+    }
+
     private static void fractions() {
         says("Fractions are told in lowest terms, the lower part above 0 (0 is 0 by 1).");
         for (boolean v : new boolean[] {false, true}) {
@@ -1436,6 +1457,7 @@ public final class EdgesTest {
 
     private static void terms() {
         findings();
+        lowestAnswers();
         fractions();
         neededPlaces();
         cutDown();
