@@ -1,8 +1,9 @@
 import java.util.Arrays;
 
 /**
- * A desk for marks in the corn: pictures led to the ground, marks on them joined to groups, forms told by a text of
- * signs, fields with looks and digs, flights planned within hours.
+ * A desk for marks in the corn: pictures led to the ground by marked places with what is left over, marks on them
+ * joined within their doubts, rivals told, forms told by a text of tests, what would have shown if it were there,
+ * beliefs that sink only by that, flights planned within hours, and digs that teach the table.
  */
 public final class CornDesk {
     private static final long LOW = -1000000000L;
@@ -81,7 +82,7 @@ public final class CornDesk {
             return told(FULL);
         }
         past.keep(ACT_PICTURE, pictureCount);
-        pictures[pictureCount] = new Picture();
+        pictures[pictureCount] = new Picture(pictureCount);
         pictureCount++;
         return pictureCount - 1;
     }
@@ -661,8 +662,13 @@ public final class CornDesk {
 
     /** A picture: both its ways to the ground have the same marked places. */
     private static final class Picture {
+        private final int number;
         private final Line alongX = new Line();
         private final Line alongY = new Line();
+
+        Picture(int number) {
+            this.number = number;
+        }
 
         int size() {
             return alongX.size();
@@ -726,7 +732,7 @@ public final class CornDesk {
         }
 
         boolean sharesPicture(Mark other) {
-            return picture == other.picture;
+            return picture.number == other.picture.number;
         }
 
         boolean fits(Mark other) {
@@ -752,7 +758,7 @@ public final class CornDesk {
         private int count;
 
         void sort(Mark[] marks, int markCount) {
-            total = Math.min(markCount, MAX_MARKS);
+            total = standing(marks, markCount);
             count = 0;
             Arrays.fill(groupOf, UNSORTED);
             for (int i = 0; i < total; i++) {
@@ -763,11 +769,21 @@ public final class CornDesk {
             }
         }
 
+        /** How many marks there are from 0 on; with this asked once, all below it can be used. */
+        private static int standing(Mark[] marks, int markCount) {
+            int most = Math.min(Math.min(markCount, MAX_MARKS), marks.length);
+            int found = 0;
+            while (found < most && marks[found] != null) {
+                found++;
+            }
+            return found;
+        }
+
         private void gather(Mark[] marks, int least) {
             members[0] = least;
             groupOf[least] = count;
             int found = 1;
-            for (int asked = 0; asked < found; asked++) {
+            for (int asked = 0; asked < found && asked < MAX_MARKS; asked++) {
                 Mark member = marks[members[asked]];
                 for (int i = least + 1; i < total && found < MAX_MARKS; i++) {
                     if (groupOf[i] == UNSORTED && member.fits(marks[i])) {
@@ -1058,7 +1074,7 @@ public final class CornDesk {
         }
 
         void weighFields(Field[] fields, int count, Table table, int crop, int dry) {
-            for (int i = 0; i < count && i < MAX_FIELDS; i++) {
+            for (int i = 0; i < count && i < MAX_FIELDS && fields[i] != null; i++) {
                 gains[i] = fields[i].gain(table, crop, dry);
                 hours[i] = fields[i].hours;
             }

@@ -8,6 +8,8 @@ import java.util.ArrayList;
 import java.util.Arrays;
 import java.util.List;
 import java.util.TreeSet;
+import java.util.regex.Matcher;
+import java.util.regex.Pattern;
 
 /** What a test can see of the document's face and of LANGUAGE.md; it is run from the root of the project. */
 public final class RulesTest {
@@ -20,6 +22,12 @@ public final class RulesTest {
         "copy(int,int,int,int,int)", "text(int)", "undo()", "all(int)"};
     private static final String[] REFUSED = {"throw", "throws", "try", "catch", "finally", "synchronized", "assert",
         "transient", "volatile", "native", "System.out", "var"};
+    /** What the class uses of the library that rule 4 lists, and no more. */
+    private static final List<String> LIBRARY = List.of("Arrays.fill", "Integer.bitCount", "Math.abs", "Math.floorDiv",
+        "Math.max", "Math.min", "System.arraycopy", "Arrays");
+    private static final Pattern TYPE_CALL = Pattern.compile("\\b[A-Z]\\w*[a-z]\\w*(\\.\\w+\\b)?");
+    private static final Pattern MADE = Pattern.compile("\\bnew (\\w+)");
+    private static final List<String> MADE_ROWS = List.of("int", "long", "boolean");
     private static final int MOST_CLASSES = 12;
     private static final int MOST_LINES = 60;
     private static final int MOST_FIELDS = 20;
@@ -89,12 +97,29 @@ public final class RulesTest {
         }
     }
 
+    /** Each name of a type, with what is called on it, is of the class's own or of the library; so is all that is made. */
+    private static void library(String bare) {
+        TreeSet<String> own = new TreeSet<>(List.of("CornDesk"));
+        for (Class<?> type : CornDesk.class.getDeclaredClasses()) {
+            own.add(type.getSimpleName());
+        }
+        for (Matcher used = TYPE_CALL.matcher(bare); used.find();) {
+            String type = used.group().split("\\.")[0];
+            hold(own.contains(type) || LIBRARY.contains(used.group()), used.group() + " is own or of the library");
+        }
+        for (Matcher made = MADE.matcher(bare); made.find();) {
+            hold(own.contains(made.group(1)) || MADE_ROWS.contains(made.group(1)), made.group(1) + " may be made");
+        }
+        hold(!bare.contains("[][]") && !bare.contains("\""), "no rows of rows, no texts");
+    }
+
     private static void source() throws java.io.IOException {
         String text = Files.readString(Path.of("src/main/java/CornDesk.java"));
         String bare = text.replaceAll("(?s)/\\*.*?\\*/", " ").replaceAll("//[^\n]*", " ");
         for (String word : REFUSED) {
             hold(!bare.matches("(?s).*\\b" + word.replace(".", "\\.") + "\\b.*"), "the source has no " + word);
         }
+        library(bare.replace("import java.util.Arrays;", ""));
         hold(!bare.contains("->") && !bare.contains("::"), "no lambda, no method reference");
         int lines = 0;
         for (String line : text.split("\n")) {
